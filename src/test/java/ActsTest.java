@@ -165,5 +165,7 @@ public final class ActsTest {
         Check.is("at 400", x.dry(0), -1);
         SandLetters y = Check.made("band a 1 2;");
         Check.is("no table", y.dry(0), -1);
+        SandLetters z = Check.made("band a 5 2;tide 4;tide 5;tide 6;");
+        Check.is("a tide of its height washes it", z.dry(0), 2);
     }
 }

@@ -8,6 +8,7 @@ public final class AskingTest {
         mending();
         rooms();
         roomStays();
+        sixBands();
         bearing();
         Check.finish();
     }
@@ -49,6 +50,15 @@ public final class AskingTest {
         Check.rowIs(z, 0, "a .7.");
         Check.is("no law at all", Check.made("band a 1 3;").ask(0), -1);
         middleOfThree();
+        signsAtTheEdges();
+    }
+
+    private static void signsAtTheEdges() {
+        SandLetters x = Check.made("band a 1 2;law l 90;law m 91;law n 92;");
+        Check.is("a 9 at place 0 leaves all", x.ask(0), 1);
+        SandLetters y = Check.made("band a 1 3;writer w 9;law l 102;law m 103;law n 104;");
+        Check.writeAll(y, 0, 0, 0, "1");
+        Check.is("a 0 at place 1 leaves all", y.ask(0), 2);
     }
 
     private static void middleOfThree() {
@@ -96,6 +106,8 @@ public final class AskingTest {
         SandLetters y = Check.made("band a 5 3;tide 0;law l 123;lapse 3;");
         y.hours(2);
         Check.is("age 2: at once", y.keep(0, 1), 1);
+        SandLetters z = Check.made("band a 1 3;band b 9 2;tide 0;law l 123;lapse 1;");
+        Check.is("height 1 is above tide 0", z.keep(0, 16), 1);
         beyondTheLastHour();
     }
 
@@ -114,6 +126,7 @@ public final class AskingTest {
     private static void mending() {
         SandLetters x = Check.made("band a 1 4;band b 1 4;band c 1 2;writer w 9;writer v 9;law l 171;law m 17;law n 88;lapse 1;");
         Check.is("ahead of any", x.mendAt(0), -1);
+        Check.is("ahead of any", x.mendAt(1), -1);
         Check.is("ahead of any", x.mendAt(2), -1);
         Check.is("all of it", x.mend(0), 5);
         Check.is("band", x.mendAt(0), 0);
@@ -186,6 +199,27 @@ public final class AskingTest {
         x.hours(3);
         Check.is("all lapsed: none needed", x.room(), 0);
         Check.is("none", x.roomOf(2), -1);
+    }
+
+    private static void sixBands() {
+        SandLetters x = Check.made("band a 1 3;band b 1 3;band c 1 3;band d 1 3;band e 1 3;band f 1 4;writer w 9;writer v 9;"
+            + "law l 123;law m 234;law n 345;law o 456;law p 567;law q 78;lapse 1;");
+        Check.is("all six", x.room(), 6);
+        for (int l = 0; l < 6; l++) {
+            Check.is("law " + l, x.roomOf(l), l);
+        }
+        for (int l = 1; l < 6; l += 2) {
+            for (int k = 0; k < x.law(l, 0); k++) {
+                x.write(l == 1 ? 0 : 1, l, k, x.lawAt(l, k));
+            }
+        }
+        x.hours(1);
+        Check.is("each second one has lapsed", x.now(4), 0b010101);
+        Check.is("three bands", x.room(), 3);
+        int[] due = {-1, 0, -1, 1, -1, 2};
+        for (int l = 0; l < 6; l++) {
+            Check.is("then law " + l, x.roomOf(l), due[l]);
+        }
     }
 
     private static void bearing() {

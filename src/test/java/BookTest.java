@@ -95,6 +95,7 @@ public final class BookTest {
         SandLetters x = Check.made(SHORE);
         x.hours(1);
         Check.is("told ahead of any", x.told(1), -1);
+        Check.is("told ahead of any", x.told(3), -1);
         Check.is("a book", Check.book(x, "w writes b 0 1;w writes b 1 2;hour 3;hour 2;v writes a 0 5;", 0), -1);
         Check.is("not wrong", x.told(0), 0);
         Check.is("five lines", x.told(1), 5);

@@ -116,6 +116,28 @@ public final class DrawsTest {
         Check.is("nobody writes", s.now(5), written);
     }
 
+    private static void oddsAtTheEnd() {
+        SandLetters s = Check.made("band a 9 3;writer w 9;law l 12;law m 34;lapse 2;");
+        Check.writeAll(s, 0, 0, 0, "12");
+        for (int i = 0; i < 6; i++) {
+            s.hours(60);
+        }
+        s.hours(38);
+        s.tread(0, 0);
+        s.hours(1);
+        Check.is("hour 399", s.now(0), 399);
+        Check.is("age 1", s.law(0, 1), 1);
+        s.write(0, 0, 0, 7);
+        s.write(0, 0, 2, 7);
+        Check.is("it lapses in the last hour", s.odds(0, 30, 5), 0);
+        s.tread(0, 0);
+        s.write(0, 0, 0, 1);
+        s.hours(1);
+        s.tread(0, 0);
+        s.write(0, 0, 0, 7);
+        Check.is("no hour goes at 400", s.odds(0, 30, 5), 30);
+    }
+
     private static void oddsByHand() {
         for (int start = 0; start < 400; start += 95) {
             SandLetters s = Check.made("band a 5 12;band b 9 5;tide 5;tide 0;writer v 9;writer w 9;law l 12;law m 345;lapse 5;");
@@ -136,7 +158,9 @@ public final class DrawsTest {
                 Check.is("the hour stays", s.now(0), start);
             }
         }
+        oddsAtTheEnd();
         SandLetters s = Check.made("law l 12;lapse 21;");
+        Check.is("one seed", s.odds(0, 1, 1), 1);
         Check.is("not lapsed behind twenty", s.odds(0, 30, 1), 30);
         s.hours(1);
         Check.is("lapsed behind twenty", s.odds(0, 7, 1), 0);

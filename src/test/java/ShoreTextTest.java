@@ -9,6 +9,8 @@ public final class ShoreTextTest {
         firstAlongTheText();
         tooLong();
         staysOrIsNew();
+        nothingIsLeftOnANewShore();
+        allLines();
         Check.finish();
     }
 
@@ -154,6 +156,42 @@ public final class ShoreTextTest {
         fault("tide" + blanks(895) + "1;", 1, 900);
         fault("tide" + blanks(895) + "1234;", 1, 899);
         fault("tide", 1, 4);
+    }
+
+    private static void nothingIsLeftOnANewShore() {
+        String text = "band a 1 3; writer w 3; law l 12; tide 1; tide 0; lapse 2;";
+        SandLetters x = Check.made(text);
+        x.hours(3);
+        Check.writeAll(x, 0, 0, 0, "999");
+        Check.is("all lines", Check.shore(x, text), 6);
+        Check.is("hour", x.now(0), 0);
+        Check.is("lapsed", x.now(4), 0);
+        Check.is("age", x.law(0, 1), 0);
+        Check.is("washed", x.band(0, 3), 0);
+        Check.is("signs", x.band(0, 2), 0);
+        Check.is("wrote", x.writer(0, 1), 0);
+        Check.is("written", x.now(5), 0);
+        Check.is("strokes", x.now(6), 0);
+        Check.is("hand", x.hand(0, 0), -1);
+        Check.rowIs(x, 0, "a ...");
+    }
+
+    private static void allLines() {
+        StringBuilder s = new StringBuilder("lapse 9;");
+        for (int i = 0; i < 8; i++) {
+            s.append("tide 1;");
+        }
+        for (int i = 0; i < 6; i++) {
+            s.append("band b").append((char) ('a' + i)).append(" 1 2;");
+            s.append("law l").append((char) ('a' + i)).append(" 1").append(i).append(';');
+        }
+        for (int i = 0; i < 4; i++) {
+            s.append("writer w").append((char) ('a' + i)).append(" 1;");
+        }
+        good(s.toString(), 25);
+        fault(s + "tide 1;", 4, s.length());
+        fault(s + "lapse 1;", 3, s.length());
+        fault(s + "and", 1, s.length());
     }
 
     private static void staysOrIsNew() {

@@ -8,6 +8,8 @@ public final class StandingTest {
         ofBands();
         signsAndHands();
         ofLaws();
+        strokes();
+        noReadingAcrossBands();
         ofWriters();
         ofNow();
         nowAtTheEnd();
@@ -99,6 +101,37 @@ public final class StandingTest {
         Check.is("its age stays", x.law(0, 1), 2);
         signsOfLaws(x);
         readAnew();
+    }
+
+    private static void strokes() {
+        int[] due = {6, 1, 5, 5, 4, 5, 6, 3, 7, 6};
+        SandLetters x = Check.made("band a 9 12;writer w 9;writer v 9;");
+        int sum = 0;
+        for (int sign = 0; sign <= 9; sign++) {
+            Check.is("write " + sign, x.write(sign % 2, 0, sign, sign), 0);
+            sum += due[sign];
+            Check.is("strokes up to " + sign, x.now(6), sum);
+        }
+        SandLetters y = Check.made("law a 10;law b 12;law c 34;law d 56;law e 78;law f 91;");
+        int[] dueOfLaws = {7, 6, 9, 11, 10, 7};
+        for (int l = 0; l < 6; l++) {
+            Check.is("strokes of law " + l, y.law(l, 4), dueOfLaws[l]);
+        }
+    }
+
+    private static void noReadingAcrossBands() {
+        SandLetters x = Check.made("band a 1 12;band b 2 12;writer w 9;writer v 9;law l 12;law m 345;lapse 1;");
+        Check.writeAll(x, 0, 0, 11, "1");
+        Check.writeAll(x, 1, 1, 0, "2");
+        Check.writeAll(x, 0, 0, 0, "55");
+        Check.is("not in a", x.band(0, 4), 0);
+        Check.is("nowhere", x.now(3), 0);
+        Check.is("mend", x.mend(0), 6);
+        Check.is("v has no sign in a", Check.sentence(x, "by v"), 1);
+        Check.is("but in b", x.said(0), 1);
+        Check.is("there alone", x.said(-1), 1);
+        x.hours(1);
+        Check.is("lapsed", x.now(4), 3);
     }
 
     private static void signsOfLaws(SandLetters x) {
