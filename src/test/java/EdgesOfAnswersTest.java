@@ -9,6 +9,7 @@ public final class EdgesOfAnswersTest {
         fitsWhateverStands();
         askOfLikeOnes();
         askAtTheLeastGreatest();
+        askOfSixLaws();
         strokesOfEachSign();
         keepByAge();
         keepByWidth();
@@ -27,7 +28,11 @@ public final class EdgesOfAnswersTest {
         drawsWithoutSome();
         oddsBehindTwentyHours();
         oddsBySeedsThatWrap();
+        oddsAtTheLastHours();
         saidAtTheBounds();
+        saidOfTwentyOnes();
+        mostOfEachSort();
+        fewerOnANewShore();
         Check.finish();
     }
 
@@ -117,6 +122,17 @@ public final class EdgesOfAnswersTest {
         Check.is("9 at 0 leaves three, 0, 1, 9 at 1 one each", z.ask(0), 1);
         SandLetters u = Check.made("band a 9 2;law l 20;law m 30;law n 90;");
         Check.is("0 at 1 leaves three", u.ask(0), 0);
+    }
+
+    private static void askOfSixLaws() {
+        String laws = "law l 12;law m 34;law n 56;law o 78;law p 90;law q 13;";
+        Check.is("all six fit whatever one learns", Check.made("band a 9 12;" + laws).ask(0), 0);
+        // In two places: a 1 at place 0 leaves 12 and 13, any sign at place 1 leaves one.
+        Check.is("the second", Check.made("band a 9 2;" + laws).ask(0), 1);
+        SandLetters x = Check.made("band a 9 3;law l 111;law m 112;law n 113;law o 114;law p 115;law q 116;");
+        Check.is("a 1 at the first two leaves six", x.ask(0), 2);
+        SandLetters y = Check.made("band a 9 6;law l 11;law m 21;law n 31;law o 41;law p 51;law q 61;");
+        Check.is("six are left by any", y.ask(0), 0);
     }
 
     /** "STROKES of a sign: 0: 6, 1: 1, 2: 5, 3: 5, 4: 4, 5: 5, 6: 6, 7: 3, 8: 7, 9: 6." */
@@ -533,5 +549,141 @@ public final class EdgesOfAnswersTest {
         saysIs(x, "washed>1", 0b001);
         saysIs(x, "washed=1", 0b010);
         saysIs(x, "not washed=1 and not wet", 0b100);
+    }
+
+    /** 20 HOURS go by draws as far as there are some: none at 400, one at 399. */
+    private static void oddsAtTheLastHours() {
+        for (int lapse = 1; lapse <= 3; lapse++) {
+            SandLetters x = Check.made("band a 9 2;writer w 9;law l 12;lapse " + lapse + ";");
+            put(x, 0, "12");
+            for (int i = 0; i < 6; i++) {
+                x.hours(60);
+            }
+            x.hours(38);
+            x.tread(0, 0);
+            x.write(0, 0, 0, 9);
+            Check.is("398: two go, lapse " + lapse, x.odds(0, 30, 7), oddsByCalls(x));
+            x.undo();
+            x.undo();
+            x.hours(1);
+            x.tread(0, 0);
+            x.write(0, 0, 0, 9);
+            Check.is("399: one goes, lapse " + lapse, x.odds(0, 30, 7), lapse > 1 ? 30 : 0);
+            x.undo();
+            x.undo();
+            x.hours(1);
+            Check.is("400", x.now(0), 400);
+            x.tread(0, 0);
+            x.write(0, 0, 0, 9);
+            Check.is("400: none goes, lapse " + lapse, x.odds(0, 30, 7), 30);
+        }
+    }
+
+    private static int oddsByCalls(SandLetters x) {
+        int standing = 0;
+        for (int i = 0; i < 30; i++) {
+            x.drawn(20, 7 + i);
+            Check.is("to the end", x.now(0), 400);
+            standing += 1 - x.law(0, 2);
+            x.undo();
+        }
+        return standing;
+    }
+
+    private static void saidOfTwentyOnes() {
+        SandLetters x = Check.made("band a 1 2;band b 5 3;band c 9 12;");
+        saysIs(x, "full or ".repeat(19) + "number=1", 0b010);
+        saysIs(x, "bare and ".repeat(19) + "number=2", 0b100);
+        saysIs(x, "wet or ".repeat(18) + "number=0 and number=0", 0b001);
+        saysIs(x, "number=0 or " + "wet or ".repeat(18) + "wet", 0b001);
+        saysIs(x, "not full and ".repeat(9) + "not number=1", 0b101);
+        saysIs(x, "(full)or ".repeat(9) + "(number=2)", 0b100);
+        saysIs(x, "not not not not not not not number=1", 0b101);
+        saysIs(x, "(((((((number=1)))))))or(((((((number=2)))))))", 0b110);
+        saysIs(x, "wet or (".repeat(7) + "number=1" + ")".repeat(7), 0b010);
+        saysIs(x, "bare and (".repeat(7) + "number=1" + ")".repeat(7), 0b010);
+    }
+
+    private static final String RICH =
+        "band a 1 12;band b 2 12;band c 3 12;band d 4 12;band e 5 12;band f 6 12;"
+        + "tide 0;tide 1;tide 2;tide 3;tide 4;tide 5;tide 6;tide 7;"
+        + "writer s 9;writer t 9;writer u 9;writer v 9;"
+        + "law l 12;law m 123;law n 234;law o 345;law p 45;law q 567;lapse 30;";
+
+    /** Six BANDS, eight tides, four WRITERS and six LAWS: the last of each sort is there and counts. */
+    private static void mostOfEachSort() {
+        SandLetters x = Check.made(RICH);
+        Check.is("25 LINES", Check.shore(x, RICH), 25);
+        put(x, 5, ".........567");
+        for (int i = 0; i < 9; i++) {
+            Check.is("the last WRITER", x.write(3, 4, i, i), 0);
+        }
+        Check.is("he can no more", x.write(3, 4, 9, 9), 1);
+        Check.is("all signs", x.now(2), 12);
+        Check.is("LAWS that can be read", x.now(3), 0b111111);
+        Check.is("the last BAND", x.law(5, 3), 4);
+        Check.is("fullest", x.fullest(), 4);
+        Check.is("fits f", x.fits(5), 0b111111);
+        Check.is("fits e", x.fits(4), 0b111111);
+        Check.is("dry", x.dry(5), 7);
+        Check.is("mend", x.mend(5), 0);
+        Check.is("band", x.mendAt(0), 4);
+        Check.is("place", x.mendAt(1), 5);
+        Check.is("keep", x.keep(5, 16), 0);
+        Check.is("room", x.room(), 2);
+        Check.is("bears", x.bears(5), 2);
+        Check.is("bears", x.bears(4), 1);
+        x.tread(4, 5);
+        Check.is("in the last BAND", x.law(5, 3), 5);
+        Check.is("band", x.mend(5) + x.mendAt(0), 5);
+        saysIs(x, "by v", 0b010000);
+        saysIs(x, "by s", 0b100000);
+        saysIs(x, "holds q", 0b100000);
+        saysIs(x, "number=5 or number>4", 0b100000);
+        Check.is("hours", x.hours(7), 7);
+        Check.is("all are washed", x.now(2), 0);
+        Check.is("the last once", x.band(5, 3), 1);
+        Check.is("tide 7", x.now(1), 7);
+        Check.is("age of the last", x.law(5, 1), 1);
+        Check.is("drawn", x.drawn(60, 1), 60);
+        Check.is("odds", x.odds(5, 30, 1) >= 0 ? 1 : 0, 1);
+    }
+
+    /** What a richer SHORE had is gone on a new one, in every answer. */
+    private static void fewerOnANewShore() {
+        SandLetters x = Check.made(RICH);
+        for (int b = 0; b < 6; b++) {
+            for (int k = 0; k < 3; k++) {
+                x.write(b % 4, b, k, 1 + k);
+            }
+        }
+        x.hours(1);
+        Check.is("a poorer one", Check.shore(x, "band a 1 2;tide 1;law l 12;lapse 1;"), 4);
+        Check.is("no sign", x.now(2), 0);
+        Check.is("none to read", x.now(3), 0);
+        Check.is("fullest", x.fullest(), 0);
+        Check.is("fits", x.fits(0), 1);
+        Check.is("ask", x.ask(0), 0);
+        Check.is("dry", x.dry(0), 1);
+        Check.is("no higher BAND to keep it in", x.keep(0, 1), -1);
+        Check.is("mend", x.mend(0), 6);
+        Check.is("room", x.room(), 1);
+        Check.is("bears", x.bears(0), 2);
+        Check.is("no second BAND", x.row(1), -1);
+        Check.is("no WRITER", x.writer(0, 0), -1);
+        Check.is("he can't write", x.write(0, 0, 0, 1), -1);
+        Check.is("no second LAW", x.lawAt(1, 0), -1);
+        Check.is("no third place", x.sign(0, 2), -1);
+        saysIs(x, "bare", 1);
+        Check.is("drawn", x.drawn(1, 1), 1);
+        Check.is("nobody wrote", x.now(5), 0);
+        Check.is("lapsed", x.now(4), 1);
+        Check.is("washed", x.band(0, 3), 1);
+        Check.is("and one without BANDS", Check.shore(x, "law m 123;lapse 1;"), 2);
+        Check.is("can not be kept", x.keep(0, 1), -1);
+        Check.is("nor mended", x.mend(0), -1);
+        Check.is("no room", x.room(), -1);
+        Check.is("no fullest", x.fullest(), -1);
+        Check.is("no tide", x.now(1), -1);
     }
 }

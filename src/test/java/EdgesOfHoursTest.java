@@ -31,8 +31,8 @@ public final class EdgesOfHoursTest {
     }
 
     private static void toHour(SandLetters x, int hour) {
-        for (int left = hour - x.now(0); left > 0; left = hour - x.now(0)) {
-            x.hours(Math.min(left, 60));
+        for (int i = 0; i < 8 && x.now(0) < hour; i++) {
+            x.hours(Math.min(hour - x.now(0), 60));
         }
         Check.is("hour", x.now(0), hour);
     }
