@@ -18,6 +18,7 @@ public final class DrawsTest {
         aKnownDraw();
         atTheEnd();
         oddsByHand();
+        handsThatWroteAhead();
         Check.finish();
     }
 
@@ -101,6 +102,38 @@ public final class DrawsTest {
         u.drawn(1, 0);
         Check.rowIs(u, 0, "a ...08.......");
         Check.is("then he can no more", u.now(5), 2);
+    }
+
+    private static void writeAndTread(SandLetters s, int w) {
+        for (int i = 0; i < s.writer(w, 0); i++) {
+            Check.is("he writes", s.write(w, 0, 0, 9), 0);
+            Check.is("it is trodden out", s.tread(0, 0), 0);
+        }
+    }
+
+    /** What a WRITER wrote ahead in this HOUR counts, and one who can write no more draws all the same. */
+    private static void handsThatWroteAhead() {
+        for (int seed = 0; seed < 20; seed++) {
+            SandLetters s = Check.made(SHORE);
+            SandLetters t = Check.made(SHORE);
+            writeAndTread(s, 0);
+            writeAndTread(t, 0);
+            s.drawn(1, seed);
+            x = seed;
+            hourByCalls(t);
+            for (int b = 0; b < 3; b++) {
+                Check.rowIs(s, b, Check.row(t, b));
+            }
+            Check.is("written", s.now(5), t.now(5));
+        }
+        SandLetters u = Check.made("band a 9 12;writer v 2;writer w 2;law l 12;lapse 1;");
+        Check.yes("some keep it", u.odds(0, 30, 1) > 0);
+        writeAndTread(u, 0);
+        writeAndTread(u, 1);
+        Check.is("nobody can in this HOUR", u.odds(0, 30, 1), 0);
+        u.drawn(1, 1);
+        Check.is("so it LAPSES", u.law(0, 2), 1);
+        Check.is("and none was written", u.now(5), 4);
     }
 
     private static void atTheEnd() {

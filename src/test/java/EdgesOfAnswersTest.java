@@ -21,6 +21,7 @@ public final class EdgesOfAnswersTest {
         roomToTheLastPlace();
         roomWithoutLapsedOnes();
         bearsByTheNearest();
+        lapsedLawsAreStillRead();
         rowsOfEachSign();
         drawsWrap();
         drawsWithinTheBand();
@@ -342,6 +343,33 @@ public final class EdgesOfAnswersTest {
     }
 
     /** "its NAME, a blank, and for each place the sign as a digit, or '.'". */
+    /** A LAW that has LAPSED is still one: but for KEEP and ROOM no sentence leaves it out. */
+    private static void lapsedLawsAreStillRead() {
+        SandLetters x = Check.made("band a 9 3;band b 9 2;writer w 9;law l 12;law m 345;law n 346;lapse 1;");
+        x.hours(1);
+        Check.is("all have LAPSED", x.now(4), 0b111);
+        Check.is("all fit", x.fits(0), 0b111);
+        Check.is("ask for the sign in the midst", x.ask(0), 1);
+        Check.is("ask in b", x.ask(1), 0);
+        Check.is("mend", x.mend(1), 14);
+        Check.is("one other is near", x.bears(1), 0);
+        Check.is("no other", x.bears(0), 2);
+        Check.is("not kept", x.keep(0, 1), -1);
+        Check.is("no room for none", x.room(), 0);
+        put(x, 0, "345");
+        put(x, 1, "12");
+        Check.is("read in a", x.band(0, 4), 0b010);
+        Check.is("read in b", x.band(1, 4), 0b001);
+        Check.is("read", x.now(3), 0b011);
+        Check.is("first BAND", x.law(0, 3), 1);
+        saysIs(x, "holds l", 0b10);
+        saysIs(x, "holds m", 0b01);
+        saysIs(x, "holds n", 0);
+        x.hours(1);
+        Check.is("it has LAPSED for good", x.now(4), 0b111);
+        Check.is("and is read", x.now(3), 0b011);
+    }
+
     private static void rowsOfEachSign() {
         SandLetters x = Check.made("band abcdefg 9 12;band z 9 2;band zyxwvut 9 2;writer w 9;writer v 9;");
         put(x, 0, "0123456789.0");

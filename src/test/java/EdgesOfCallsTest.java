@@ -19,6 +19,7 @@ public final class EdgesOfCallsTest {
         feeding();
         ending();
         shoreWithAFault();
+        newShoreLeavesWhatWasTold();
         faultOfTheLatest();
         bandsAndWhats();
         signsAndHands();
@@ -197,6 +198,24 @@ public final class EdgesOfCallsTest {
         Check.is("no ; any more", x.fault(), 1);
         Check.yes("end(0) of none", x.end(0));
         Check.is("none", x.count(5), 0);
+    }
+
+    /** "A new SHORE: HOUR 0, no signs, AGES 0, no SENTENCE.": what mendAt() and its like tell goes by the latest answer. */
+    private static void newShoreLeavesWhatWasTold() {
+        String[] texts = {"", "band z 1 2;", "band a 2 3;band b 5 4;tide 1;tide 3;writer v 2;law l 12;law m 345;"};
+        for (String text : texts) {
+            SandLetters x = prepared();
+            SandLetters y = prepared();
+            x.end(0);
+            Check.yes("taken", Check.shore(x, text) >= 0);
+            Check.yes("'" + text + "' leaves what was told", Snapshot.ofToldLast(x).equals(Snapshot.ofToldLast(y)));
+            Check.is("no FAULT", x.fault(), 0);
+            Check.is("nothing to undo", x.undo(), -1);
+            Check.no("no other image", x.restore(1));
+            Check.yes("the image stays", x.restore(0));
+            Check.is("as it was kept", x.now(2), 1);
+            Check.is("its SENTENCE, too", x.said(-1), 1);
+        }
     }
 
     /** "-1 less the place of a FAULT: it stays"; "The tape (empty then, here and below)". */

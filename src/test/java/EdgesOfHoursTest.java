@@ -215,6 +215,24 @@ public final class EdgesOfHoursTest {
         Check.is("399 modulo 7 is 0", x.now(1), 1);
         x.hours(1);
         Check.is("400 modulo 7 is 1", x.now(1), 2);
+        wetByTheTideOfThisHour();
+    }
+
+    /** "'wet' (the tide of this HOUR will wash it)": at HOUR 400 it goes by the same tide that now(1) tells. */
+    private static void wetByTheTideOfThisHour() {
+        SandLetters x = Check.made("band a 2 2;band b 4 2;tide 1;tide 2;tide 3;tide 4;tide 5;tide 6;tide 7;");
+        Check.is("sentence", Check.sentence(x, "wet"), 1);
+        for (int hour = 0; hour < 10; hour++) {
+            int tide = 1 + hour % 7;
+            Check.is("wet in HOUR " + hour, x.said(-1), (tide >= 2 ? 1 : 0) + (tide >= 4 ? 1 : 0));
+            x.hours(1);
+        }
+        toHour(x, 399);
+        Check.is("none at 399", x.said(-1), 0);
+        toHour(x, 400);
+        Check.is("the tide at 400", x.now(1), 2);
+        Check.is("one at 400", x.said(-1), 1);
+        Check.is("it is a", x.said(0), 0);
     }
 
     /** "(none: no tide)". */

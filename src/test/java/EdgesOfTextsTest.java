@@ -205,6 +205,12 @@ public final class EdgesOfTextsTest {
         bookFault("hour 0060;", 1, 5);
         sentenceIs("signs=012", 1);
         sentenceFault("signs=0012", 1, 6);
+        // Four digits are no TOKEN, not even where their value is the number of the mark that is due: ; < ( )
+        shoreFault("tide 5 0059", 1, 7);
+        bookFault("hour 5 0059", 1, 7);
+        sentenceFault("signs 0060 5", 1, 6);
+        sentenceFault("0040 bare)", 1, 0);
+        sentenceFault("(bare 0041", 1, 6);
     }
 
     /** "A WORD, NUMBER goes on as long as small letters and digits do; what is not as told is no TOKEN." */
